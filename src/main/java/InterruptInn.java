@@ -10,11 +10,16 @@ public final class InterruptInn {
     private static final int MOST_SIGNS = 80;
     private static final int MOST_STATES = 6;
     private static final int SLOTS = 2;
+    private static final int MOST_RANK = 15;
+    private static final int MOST_NEED = 50;
+    private static final int MOST_DEADLINE = 500;
+    private static final int MOST_PERIOD = 200;
+    private static final int MOST_TICKS_AHEAD = 500;
     private static final int MOST_TICKS = 500;
     private static final int MOST_BAR_TICKS = 200;
     private static final int FORECAST = 600;
     private static final int MOST_BOUND = 3000;
-    private static final int FIRST_SETTING_COUNT = 12;
+    private static final int SETTINGS_FROM = 12;
 
     private static final int[] LEAST_VALUES = {0, 0, 1, 1, 0, 0, 0};
     private static final int[] MOST_VALUES = {100, 31, 9, 8, 9, 1, 31};
@@ -126,10 +131,11 @@ public final class InterruptInn {
     }
 
     public int missesIn(int ticks) {
-        trial.copyFrom(server);
-        if (trial.passTicks(ticks) < 0) {
+        if (!within(ticks, 1, MOST_TICKS)) {
             return BAD_VALUE;
         }
+        trial.copyFrom(server);
+        trial.passTicks(ticks);
         return trial.missesOfAll() - server.missesOfAll();
     }
 
@@ -178,7 +184,18 @@ public final class InterruptInn {
             return BAD_TEXT;
         }
         history.prepare(server);
-        int done = obeyAll();
+        int done = 0;
+        int start = 0;
+        for (int end = 0; end <= pad.length; end++) {
+            if (!pad.orderEndsAt(end)) {
+                continue;
+            }
+            if (obey(start, end) < 0) {
+                break;
+            }
+            done++;
+            start = end + 1;
+        }
         pad.clear();
         return history.recordUnlessError(done);
     }
@@ -210,22 +227,6 @@ public final class InterruptInn {
         return history.recordUnlessError(server.tick);
     }
 
-    private int obeyAll() {
-        int done = 0;
-        int start = 0;
-        for (int end = 0; end <= pad.length; end++) {
-            if (!pad.orderEndsAt(end)) {
-                continue;
-            }
-            if (obey(start, end) < 0) {
-                break;
-            }
-            done++;
-            start = end + 1;
-        }
-        return done;
-    }
-
     private int obey(int start, int end) {
         int line = pad.signAt(start + 1) - 'A';
         switch (pad.signAt(start)) {
@@ -240,6 +241,11 @@ public final class InterruptInn {
 
     private static boolean within(int value, int least, int most) {
         return value >= least && value <= most;
+    }
+
+    /** Both are 0 or more; no caller divides by 0, and the machine is never asked to. */
+    private static long dividedUp(long above, long below) {
+        return below > 0 ? (above + below - 1) / below : 0;
     }
 
     private static final class Line {
@@ -529,14 +535,14 @@ public final class InterruptInn {
         }
 
         static boolean isShape(int rank, int need, int deadline) {
-            return within(rank, 0, 15) && within(need, 1, 50) && within(deadline, 0, 500);
+            return within(rank, 0, MOST_RANK) && within(need, 1, MOST_NEED) && within(deadline, 0, MOST_DEADLINE);
         }
 
         int addTimer(int line, int period, int first) {
             if (!hasLine(line)) {
                 return NO_SUCH;
             }
-            if (!within(period, 1, 200) || !within(first, tick, tick + 500)) {
+            if (!within(period, 1, MOST_PERIOD) || !within(first, tick, tick + MOST_TICKS_AHEAD)) {
                 return BAD_VALUE;
             }
             if (timerCount >= MOST_TIMERS) {
@@ -726,8 +732,8 @@ public final class InterruptInn {
         }
 
         int numberOfAll(int what) {
-            int setting = what - FIRST_SETTING_COUNT;
-            if (what >= FIRST_SETTING_COUNT && setting < settings.length) {
+            int setting = what - SETTINGS_FROM;
+            if (what >= SETTINGS_FROM && setting < settings.length) {
                 return settings[setting];
             }
             switch (what) {
@@ -818,7 +824,7 @@ public final class InterruptInn {
             for (int i = 0; i < timerCount; i++) {
                 Timer timer = timers[i];
                 if (timer.line != line && lines[timer.line].rank >= lines[line].rank) {
-                    sum += (w + timer.period - 1) / timer.period * costOf(timer.line);
+                    sum += (int) dividedUp(w, timer.period) * costOf(timer.line);
                 }
             }
             return sum;
@@ -832,7 +838,7 @@ public final class InterruptInn {
                 above = above * timers[i].period + below * costOf(timers[i].line);
                 below *= timers[i].period;
             }
-            return (int) ((1000 * above + below - 1) / below);
+            return (int) dividedUp(1000 * above, below);
         }
     }
 

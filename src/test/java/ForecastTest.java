@@ -7,6 +7,7 @@ public final class ForecastTest {
         beginsEdges();
         idle();
         idleEdges();
+        idleIn600();
         missing();
         bars();
         barsAreNoOrder();
@@ -121,6 +122,27 @@ public final class ForecastTest {
         z.timer(1, 50, 1);
         // 58 ticks are left: 11 rounds, then 3 ticks.
         Due.due("close to 600", z.idleIn(), 11 * 50 + 45 + 3);
+    }
+
+    private static void idleIn600() {
+        InterruptInn x = new InterruptInn();
+        for (int line = 0; line < 8; line++) {
+            x.line(line, 50, 0, 0);
+        }
+        x.line(8, 8, 0, 0);
+        x.set(InterruptInn.SWITCH, 9);
+        x.set(InterruptInn.DEEPEST, 8);
+        for (int line = 0; line < 7; line++) {
+            x.raise(line);
+            x.ticks(1);
+        }
+        x.raise(8);
+        x.timer(7, 200, 8);
+        Due.due("600: seven lines, the eighth three times, the ninth", x.idleIn(), 7 * 59 - 7 + 3 * 59 + 17);
+        x.change(8, 8, 9, 0);
+        Due.due("601", x.idleIn(), Due.NONE);
+        x.ticks(1);
+        Due.due("a tick later", x.idleIn(), 600);
     }
 
     private static void missing() {
@@ -250,6 +272,7 @@ public final class ForecastTest {
         x.change(1, 5, 49, 0);
         x.timer(1, 200, 0);
         Due.due("one timer more", x.bound(0), Due.NONE);
+        bound3000();
         InterruptInn y = new InterruptInn();
         y.set(InterruptInn.SWITCH, 0);
         y.line(1, 9, 0, 0);
@@ -260,6 +283,33 @@ public final class ForecastTest {
         y.timer(1, 100, 0);
         Due.due("full up to 3000 and beyond", y.bound(0), Due.NONE);
         Due.due("a bound by its own", y.bound(1), 50 + 40);
+    }
+
+    private static void bound3000() {
+        InterruptInn x = new InterruptInn();
+        x.set(InterruptInn.SWITCH, 0);
+        x.line(3, 50, 0, 0);
+        x.line(5, 49, 0, 0);
+        x.line(1, 10, 0, 0);
+        x.timer(1, 50, 0);
+        Due.due("3000 = 10 + 50 + 60 * 49", x.bound(0), 3000);
+        x.change(2, 1, 11, 0);
+        Due.due("3050 is too much", x.bound(0), Due.NONE);
+        InterruptInn y = new InterruptInn();
+        y.set(InterruptInn.SWITCH, 0);
+        y.line(3, 50, 0, 0);
+        y.line(5, 40, 0, 0);
+        y.line(6, 37, 0, 0);
+        y.line(1, 25, 0, 0);
+        y.timer(1, 79, 0);
+        y.timer(2, 79, 0);
+        Due.due("3001 = 25 + 50 + 38 * 77", y.bound(0), Due.NONE);
+        y.change(3, 1, 24, 0);
+        Due.due("2923 = 24 + 50 + 37 * 77", y.bound(0), 2923);
+        InterruptInn z = new InterruptInn();
+        z.set(InterruptInn.SWITCH, 0);
+        z.line(0, 1, 0, 0);
+        Due.due("the least bound", z.bound(0), 1);
     }
 
     private static void loads() {

@@ -56,6 +56,12 @@ public final class LinesTest {
         Due.due("masked, kept", x.raise(0), 1);
         Due.due("masked, waits", x.ofLine(0, 5), 1);
         x = with(1);
+        x.mask(0, 1);
+        x.timer(0, 5, 0);
+        x.ticks(1);
+        Due.due("masked, kept by timer", x.ofLine(0, 6), 1);
+        Due.due("masked, none lost by timer", x.ofLine(0, 11), 0);
+        x = with(1);
         x.set(InterruptInn.KEEP, 0);
         Due.due("not masked, not kept", x.raise(0), 1);
         x.mask(0, 1);

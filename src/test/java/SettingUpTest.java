@@ -10,6 +10,7 @@ public final class SettingUpTest {
         settingLeavesNest();
         lines();
         lineErrors();
+        lineInAUsedPlace();
         timers();
         timerErrors();
         timerFirstIsFromNow();
@@ -114,6 +115,51 @@ public final class SettingUpTest {
         Due.due("no history", x.count(11), 0);
     }
 
+    /** A line that takes the number of one that was undone has nothing of it. */
+    private static void lineInAUsedPlace() {
+        InterruptInn x = new InterruptInn();
+        x.save(0);
+        x.line(7, 7, 7, 1);
+        x.line(6, 6, 6, 0);
+        x.line(5, 1, 1, 0);
+        x.hold(0, 0, 1);
+        x.raise(1);
+        x.raise(2);
+        x.raise(2);
+        x.ticks(40);
+        x.raise(1);
+        x.mask(1, 1);
+        x.hold(0, 1, 1);
+        x.hold(0, 3, 1);
+        x.ticks(2);
+        x.raise(2);
+        x.ticks(7);
+        x.mask(0, 1);
+        for (int what = 8; what <= 16; what++) {
+            boolean used = x.ofLine(0, what) > 0 || x.ofLine(1, what) > 0 || x.ofLine(2, what) > 0;
+            Due.due("used " + what, used || what == 8 ? 1 : 0, 1);
+        }
+        Due.due("restore", x.restore(0), 0);
+        InterruptInn fresh = new InterruptInn();
+        for (int line = 0; line < 3; line++) {
+            x.line(3, 4, 0, line % 2);
+            fresh.line(3, 4, 0, line % 2);
+        }
+        for (int line = 0; line < 3; line++) {
+            for (int what = 0; what <= 16; what++) {
+                Due.due("used place " + line + ", " + what, x.ofLine(line, what), fresh.ofLine(line, what));
+            }
+        }
+        x.raise(0);
+        fresh.raise(0);
+        x.hold(1, 2, 1);
+        fresh.hold(1, 2, 1);
+        Due.due("they go on alike", Due.seen(x), Due.seen(fresh));
+        x.ticks(30);
+        fresh.ticks(30);
+        Due.due("they end alike", Due.seen(x), Due.seen(fresh));
+    }
+
     private static void timers() {
         InterruptInn x = new InterruptInn();
         x.line(1, 2, 0, 0);
@@ -131,6 +177,11 @@ public final class SettingUpTest {
         Due.due("full is ahead of level", x.timer(1, 1, 0), Due.TOO_MANY);
         Due.due("value is ahead of full", x.timer(1, 0, 0), Due.BAD_VALUE);
         Due.due("line is ahead of value", x.timer(2, 0, 0), Due.NO_SUCH);
+        Due.due("one of six is stopped", x.stop(0), 5);
+        Due.due("the last one now", x.ofTimer(4, 1), 5);
+        Due.due("no more", x.ofTimer(5, 1), Due.NO_SUCH);
+        Due.due("again six", x.timer(0, 9, 9), 5);
+        Due.due("the sixth is stopped", x.stop(5), 5);
     }
 
     private static void timerErrors() {
