@@ -146,7 +146,7 @@ public final class InterruptInn {
         if (!within(ticks, 1, MOST_BAR_TICKS)) {
             return BAD_VALUE;
         }
-        // A lower bar lets rivals begin, too, so that the bars that do have no order: each one is tried.
+        // A bar may do where a lower one does not, as it keeps rivals away, too: so each one is tried.
         for (int bar = MOST_VALUES[BAR]; bar >= LEAST_VALUES[BAR]; bar--) {
             trial.copyFrom(server);
             trial.changeSetting(BAR, bar);

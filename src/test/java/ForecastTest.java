@@ -154,7 +154,10 @@ public final class ForecastTest {
         Due.due("not within 10", x.missesIn(10), 0);
         Due.due("within 11", x.missesIn(11), 1);
         Due.due("none counted", x.count(8), 0);
-        x.ticks(11);
+        Due.due("not in the next one", x.missesIn(1), 0);
+        x.ticks(10);
+        Due.due("in the next one", x.missesIn(1), 1);
+        x.ticks(1);
         Due.due("it was one", x.count(8), 1);
         Due.due("no more of them", x.missesIn(500), 0);
         x.change(0, 3, 4, 5);
@@ -246,6 +249,10 @@ public final class ForecastTest {
         Due.due("a timer above", x.bound(0), 13 + 3);
         x.timer(1, 14, 0);
         Due.due("two timers of one line", x.bound(0), 13 + 6 + 6);
+        for (int timer = 3; timer < 6; timer++) {
+            x.timer(3, 1, 0);
+        }
+        Due.due("three more of a lower line", x.bound(0), 25);
         x.mask(1, 1);
         Due.due("masked or not", x.bound(0), 25);
         x.set(InterruptInn.SWITCH, 0);
