@@ -10,31 +10,39 @@ final class Due {
 
     private static int wrong = 0;
     private static int asked = 0;
+    private static String sentence = "";
 
     private Due() {
+    }
+
+    /** The words of the document by which the answers from here on are due. */
+    static void by(String words) {
+        sentence = words + " | ";
     }
 
     static void due(String call, long got, long want) {
         asked++;
         if (got != want) {
-            wrong++;
-            if (wrong <= 50) {
-                System.out.println(call + " answered " + got + ", due is " + want);
-            }
+            tell(call + " answered " + got + ", due is " + want);
         }
     }
 
     static void due(String call, Object got, Object want) {
         asked++;
         if (!got.equals(want)) {
-            wrong++;
-            if (wrong <= 50) {
-                System.out.println(call + " gave " + got + ", due is " + want);
-            }
+            tell(call + " gave " + got + ", due is " + want);
+        }
+    }
+
+    private static void tell(String what) {
+        wrong++;
+        if (wrong <= 50) {
+            System.out.println(sentence + what);
         }
     }
 
     static void finish() {
+        sentence = "";
         System.out.println(asked + " answers, " + wrong + " of them wrong");
         if (wrong != 0 || asked == 0) {
             System.exit(1);
@@ -56,6 +64,21 @@ final class Due {
             number = number << 8 | sign;
         }
         return number;
+    }
+
+    /** Writes the text, and carries it out. */
+    static int carry(InterruptInn x, String text) {
+        write(x, text);
+        return x.carryOut();
+    }
+
+    /** An object with edge lines of these ranks, each with a need of 5 and without a deadline. */
+    static InterruptInn with(int... ranks) {
+        InterruptInn x = new InterruptInn();
+        for (int rank : ranks) {
+            x.line(rank, 5, 0, 0);
+        }
+        return x;
     }
 
     /** All that is seen of lines, nest, timers and settings, without the pad and the history. */

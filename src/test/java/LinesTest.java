@@ -23,16 +23,8 @@ public final class LinesTest {
         Due.finish();
     }
 
-    private static InterruptInn with(int... ranks) {
-        InterruptInn x = new InterruptInn();
-        for (int rank : ranks) {
-            x.line(rank, 5, 0, 0);
-        }
-        return x;
-    }
-
     private static void raising() {
-        InterruptInn x = with(1);
+        InterruptInn x = Due.with(1);
         x.line(2, 5, 0, 1);
         Due.due("raise", x.raise(0), 1);
         Due.due("raise again", x.raise(0), 0);
@@ -51,22 +43,22 @@ public final class LinesTest {
     }
 
     private static void keepAndMask() {
-        InterruptInn x = with(1);
+        InterruptInn x = Due.with(1);
         x.mask(0, 1);
         Due.due("masked, kept", x.raise(0), 1);
         Due.due("masked, waits", x.ofLine(0, 5), 1);
-        x = with(1);
+        x = Due.with(1);
         x.mask(0, 1);
         x.timer(0, 5, 0);
         x.ticks(1);
         Due.due("masked, kept by timer", x.ofLine(0, 6), 1);
         Due.due("masked, none lost by timer", x.ofLine(0, 11), 0);
-        x = with(1);
+        x = Due.with(1);
         x.set(InterruptInn.KEEP, 0);
         Due.due("not masked, not kept", x.raise(0), 1);
         x.mask(0, 1);
         Due.due("still waits", x.ofLine(0, 5), 1);
-        x = with(1);
+        x = Due.with(1);
         x.set(InterruptInn.KEEP, 0);
         x.mask(0, 1);
         Due.due("masked, lost", x.raise(0), 0);
@@ -86,7 +78,7 @@ public final class LinesTest {
     }
 
     private static void raisingInNest() {
-        InterruptInn x = with(1);
+        InterruptInn x = Due.with(1);
         x.raise(0);
         x.ticks(1);
         Due.due("in the nest", x.ofLine(0, 8), 0);
@@ -188,7 +180,7 @@ public final class LinesTest {
     }
 
     private static void masking() {
-        InterruptInn x = with(4, 2);
+        InterruptInn x = Due.with(4, 2);
         Due.due("mask", x.mask(0, 1), 0);
         Due.due("masked", x.ofLine(0, 4), 1);
         Due.due("mask again", x.mask(0, 1), 1);
@@ -216,7 +208,7 @@ public final class LinesTest {
     }
 
     private static void changing() {
-        InterruptInn x = with(4);
+        InterruptInn x = Due.with(4);
         Due.due("change", x.change(0, 15, 50, 500), 4);
         Due.due("rank", x.ofLine(0, 0), 15);
         Due.due("need", x.ofLine(0, 1), 50);
@@ -241,7 +233,7 @@ public final class LinesTest {
     }
 
     private static void changeLeavesNest() {
-        InterruptInn x = with(4);
+        InterruptInn x = Due.with(4);
         x.raise(0);
         x.ticks(2);
         x.change(0, 9, 1, 1);
@@ -253,7 +245,7 @@ public final class LinesTest {
         x.ticks(2);
         Due.due("rank of the next", x.ofNest(0, 1), 9);
         Due.due("ticks of the next", x.ofNest(0, 2), 1);
-        InterruptInn y = with(4);
+        InterruptInn y = Due.with(4);
         y.mask(0, 1);
         y.raise(0);
         y.ticks(30);
@@ -279,7 +271,7 @@ public final class LinesTest {
     }
 
     private static void growing() {
-        InterruptInn x = with(5);
+        InterruptInn x = Due.with(5);
         x.set(InterruptInn.BAR, 31);
         x.raise(0);
         x.ticks(19);
@@ -306,7 +298,7 @@ public final class LinesTest {
     }
 
     private static void maskedGrows() {
-        InterruptInn x = with(5);
+        InterruptInn x = Due.with(5);
         x.mask(0, 1);
         x.raise(0);
         x.ticks(40);
@@ -318,7 +310,7 @@ public final class LinesTest {
     }
 
     private static void order() {
-        InterruptInn x = with(3, 7, 7, 5);
+        InterruptInn x = Due.with(3, 7, 7, 5);
         for (int line = 0; line < 4; line++) {
             x.raise(line);
         }
@@ -331,7 +323,7 @@ public final class LinesTest {
         x.undo();
         x.mask(2, 0);
         Due.due("the only one", x.count(5), 2);
-        InterruptInn y = with(7, 7, 1);
+        InterruptInn y = Due.with(7, 7, 1);
         y.set(InterruptInn.AGE, 0);
         y.mask(0, 1);
         y.mask(1, 1);
@@ -343,7 +335,7 @@ public final class LinesTest {
         Due.due("the longest wait of equal ranks", y.count(5), 1);
         y.ticks(1);
         Due.due("it began", y.ofNest(0, 0), 1);
-        InterruptInn z = with(1, 3);
+        InterruptInn z = Due.with(1, 3);
         z.set(InterruptInn.AGE, 1);
         z.mask(0, 1);
         z.raise(0);
@@ -354,7 +346,7 @@ public final class LinesTest {
     }
 
     private static void bar() {
-        InterruptInn x = with(4, 6);
+        InterruptInn x = Due.with(4, 6);
         x.set(InterruptInn.BAR, 5);
         x.raise(0);
         Due.due("below the bar", x.count(5), Due.NONE);
@@ -371,7 +363,7 @@ public final class LinesTest {
     }
 
     private static void gapAndDepth() {
-        InterruptInn x = with(4, 5, 6, 7);
+        InterruptInn x = Due.with(4, 5, 6, 7);
         x.set(InterruptInn.GAP, 2);
         x.raise(0);
         x.ticks(1);
@@ -403,7 +395,7 @@ public final class LinesTest {
         }
         Due.due("served", x.count(6), 24);
         Due.due("deepest stays", x.count(7), 3);
-        InterruptInn y = with(0, 1, 2, 3, 4, 5, 6, 7, 8, 9);
+        InterruptInn y = Due.with(0, 1, 2, 3, 4, 5, 6, 7, 8, 9);
         y.set(InterruptInn.DEEPEST, 8);
         for (int line = 0; line < 10; line++) {
             y.raise(line);
