@@ -26,6 +26,7 @@ public final class ForecastEdgesTest {
         boundNoSuch();
         boundWithoutTimers();
         boundOfLowerRanks();
+        boundOfLowerRanksOfAllKinds();
         boundOfOtherTimers();
         boundRoundedUp();
         boundIsTheLeast();
@@ -407,6 +408,32 @@ public final class ForecastEdgesTest {
         Due.due("none is below, five have the same rank", x.bound(1), 1);
         x.set(InterruptInn.SWITCH, 2);
         Due.due("SWITCH counts for both", x.bound(5), 52 + 52);
+    }
+
+    private static void boundOfLowerRanksOfAllKinds() {
+        Due.by("bound: b is the greatest cost of the lines whose rank is below (masked, level, in the nest, ..)");
+        InterruptInn x = bare(5, 1, 1, 9);
+        x.mask(1, 1);
+        Due.due("a masked line", x.bound(0), 1 + 9);
+        x.line(2, 20, 0, 1);
+        Due.due("a level line", x.bound(0), 1 + 20);
+        x.hold(2, 0, 1);
+        Due.due("that waits", x.bound(0), 1 + 20);
+        x.ticks(3);
+        Due.due("in the nest", x.ofNest(0, 0), 2);
+        Due.due("with all of its need", x.bound(0), 1 + 20);
+        x.line(3, 30, 500, 0);
+        x.timer(3, 100, 400);
+        Due.due("a line with a timer", x.bound(0), 1 + 30);
+        x.mask(0, 1);
+        Due.due("for a masked line", x.bound(0), 1 + 30);
+        x.mask(0, 0);
+        x.raise(0);
+        Due.due("for a line that waits", x.bound(0), 1 + 30);
+        x.ticks(1);
+        Due.due("which has its service", x.ofLine(0, 13), 1);
+        Due.due("for a line that has had a service", x.bound(0), 1 + 30);
+        Due.due("for a level line", x.bound(2), 20 + 9 + 30);
     }
 
     private static void boundOfOtherTimers() {

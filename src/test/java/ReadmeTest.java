@@ -6,6 +6,7 @@ import java.util.HashMap;
 import java.util.List;
 import java.util.Map;
 import java.util.TreeSet;
+import java.util.regex.MatchResult;
 import java.util.regex.Matcher;
 import java.util.regex.Pattern;
 
@@ -113,22 +114,21 @@ public final class ReadmeTest {
         return Long.parseLong(named.group(2));
     }
 
+    private static List<MatchResult> rows(List<String> page, Pattern row) {
+        return page.stream().map(row::matcher).filter(Matcher::matches).map(Matcher::toMatchResult).toList();
+    }
+
     /** Each method has one row, with all of its parameters and just the errors that it returns. */
     private static void methods(List<String> page) throws Exception {
-        int rows = 0;
-        for (String line : page) {
-            Matcher found = METHOD.matcher(line);
-            if (!found.matches()) {
-                continue;
-            }
-            rows++;
-            String name = found.group(1);
-            int parameters = found.group(2).isEmpty() ? 0 : found.group(2).split(", ").length;
+        List<MatchResult> rows = rows(page, METHOD);
+        for (MatchResult row : rows) {
+            String name = row.group(1);
+            int parameters = row.group(2).isEmpty() ? 0 : row.group(2).split(", ").length;
             Due.due("parameters of " + name, parameters, METHODS.get(name).getParameterCount());
-            TreeSet<String> errors = new TreeSet<>(List.of(found.group(3).trim().split(", ")));
+            TreeSet<String> errors = new TreeSet<>(List.of(row.group(3).trim().split(", ")));
             Due.due("errors of " + name, errors.toString(), errorsOf(METHODS.get(name)).toString());
         }
-        Due.due("rows of methods", rows, METHODS.size());
+        Due.due("rows of methods", rows.size(), METHODS.size());
     }
 
     private static TreeSet<String> errorsOf(Method method) throws Exception {
@@ -167,79 +167,60 @@ public final class ReadmeTest {
     }
 
     private static void codes(List<String> page) throws Exception {
-        int rows = 0;
-        for (String line : page) {
-            Matcher found = CODE.matcher(line);
-            if (found.matches()) {
-                Due.due(line, valueOf("InterruptInn." + found.group(1)), Long.parseLong(found.group(2)));
-                rows++;
-            }
+        List<MatchResult> rows = rows(page, CODE);
+        for (MatchResult row : rows) {
+            Due.due(row.group(), valueOf("InterruptInn." + row.group(1)), Long.parseLong(row.group(2)));
         }
-        Due.due("rows of codes", rows, 5);
+        Due.due("rows of codes", rows.size(), 5);
     }
 
     private static void settings(List<String> page) throws Exception {
-        int rows = 0;
-        for (String line : page) {
-            Matcher found = SETTING.matcher(line);
-            if (!found.matches()) {
-                continue;
-            }
-            int setting = Integer.parseInt(found.group(2));
-            int least = Integer.parseInt(found.group(3));
-            int most = Integer.parseInt(found.group(4));
-            int first = Integer.parseInt(found.group(5));
+        List<MatchResult> rows = rows(page, SETTING);
+        for (MatchResult row : rows) {
+            int setting = Integer.parseInt(row.group(2));
+            int least = Integer.parseInt(row.group(3));
+            int most = Integer.parseInt(row.group(4));
+            int first = Integer.parseInt(row.group(5));
             InterruptInn x = new InterruptInn();
-            Due.due(line + " its number", valueOf("InterruptInn." + found.group(1)), setting);
-            Due.due(line + " least", x.set(setting, least), first);
-            Due.due(line + " most", x.set(setting, most), least);
-            Due.due(line + " below", x.set(setting, least - 1), Due.BAD_VALUE);
-            Due.due(line + " above", x.set(setting, most + 1), Due.BAD_VALUE);
-            rows++;
+            Due.due(row.group() + " its number", valueOf("InterruptInn." + row.group(1)), setting);
+            Due.due(row.group() + " least", x.set(setting, least), first);
+            Due.due(row.group() + " most", x.set(setting, most), least);
+            Due.due(row.group() + " below", x.set(setting, least - 1), Due.BAD_VALUE);
+            Due.due(row.group() + " above", x.set(setting, most + 1), Due.BAD_VALUE);
         }
-        Due.due("rows of settings", rows, 7);
+        Due.due("rows of settings", rows.size(), 7);
     }
 
     /** A cell is empty if there is no such number; the settings' names stand where their numbers are. */
     private static void numbers(List<String> page) throws Exception {
         InterruptInn x = Due.busy();
-        int rows = 0;
-        for (String line : page) {
-            Matcher found = NUMBER.matcher(line);
-            if (!found.matches()) {
-                continue;
-            }
-            int what = Integer.parseInt(found.group(1));
-            Due.due("what " + what, what, rows);
-            Due.due("ofLine " + what, found.group(2).isBlank(), x.ofLine(0, what) == Due.BAD_VALUE);
-            Due.due("ofNest " + what, found.group(3).isBlank(), x.ofNest(0, what) == Due.BAD_VALUE);
-            Due.due("ofTimer " + what, found.group(4).isBlank(), x.ofTimer(0, what) == Due.BAD_VALUE);
-            Due.due("count " + what, found.group(5).isBlank(), x.count(what) == Due.BAD_VALUE);
+        int what = 0;
+        for (MatchResult row : rows(page, NUMBER)) {
+            Due.due("what", Long.parseLong(row.group(1)), what);
+            Due.due("ofLine " + what, row.group(2).isBlank(), x.ofLine(0, what) == Due.BAD_VALUE);
+            Due.due("ofNest " + what, row.group(3).isBlank(), x.ofNest(0, what) == Due.BAD_VALUE);
+            Due.due("ofTimer " + what, row.group(4).isBlank(), x.ofTimer(0, what) == Due.BAD_VALUE);
+            Due.due("count " + what, row.group(5).isBlank(), x.count(what) == Due.BAD_VALUE);
             if (what >= 12) {
-                Due.due("setting", valueOf("InterruptInn." + found.group(5).trim()), what - 12);
+                Due.due("setting", valueOf("InterruptInn." + row.group(5).trim()), what - 12);
             }
-            rows++;
+            what++;
         }
-        Due.due("rows of numbers", x.count(rows), Due.BAD_VALUE);
+        Due.due("no more numbers", x.count(what), Due.BAD_VALUE);
     }
 
     private static void orders(List<String> page) throws Exception {
-        int rows = 0;
-        for (String line : page) {
-            Matcher found = ORDER.matcher(line);
-            if (!found.matches()) {
-                continue;
-            }
+        List<MatchResult> rows = rows(page, ORDER);
+        for (MatchResult row : rows) {
             for (int level = 0; level <= 1; level++) {
                 InterruptInn byText = heldUp(level);
                 InterruptInn byCall = heldUp(level);
-                int answer = call(byCall, found.group(2), found.group(3));
-                Due.due(line + " carried out", Due.carry(byText, found.group(1)), answer < 0 ? 0 : 1);
-                Due.due(line, Due.seen(byText), Due.seen(byCall));
+                int answer = call(byCall, row.group(2), row.group(3));
+                Due.due(row.group() + " carried out", Due.carry(byText, row.group(1)), answer < 0 ? 0 : 1);
+                Due.due(row.group(), Due.seen(byText), Due.seen(byCall));
             }
-            rows++;
         }
-        Due.due("rows of orders", rows, 6);
+        Due.due("rows of orders", rows.size(), 6);
     }
 
     private static InterruptInn heldUp(int level) {

@@ -17,6 +17,7 @@ public final class TickEdgesTest {
         lastDeviceOfALevelLine();
         oneOfTwoDevices();
         lowestDeviceLetsGo();
+        lowestDeviceOfAMaskedLine();
         maskEnds();
         maskLeavesTheNest();
         maskedLinesGrow();
@@ -319,6 +320,29 @@ public final class TickEdgesTest {
         z.ticks(6);
         Due.due("an edge line has none", z.ofLine(0, 9), 0);
         Due.due("and ends", z.ofLine(0, 13), 1);
+    }
+
+    private static void lowestDeviceOfAMaskedLine() {
+        Due.by("the lowest device that holds it up lets go of it; .. it waits from then on (masked in the nest)");
+        InterruptInn x = level(2);
+        x.hold(0, 1, 1);
+        x.hold(0, 3, 1);
+        x.ticks(1);
+        x.mask(0, 1);
+        x.ticks(1);
+        Due.due("ended", x.ofLine(0, 13), 1);
+        Due.due("device 1 let go", x.ofLine(0, 9), 8);
+        Due.due("waits for device 3", x.ofLine(0, 6), 1);
+        x.ticks(3);
+        Due.due("masked, it does not begin", x.ofLine(0, 12), 1);
+        Due.due("held still", x.ofLine(0, 9), 8);
+        x.mask(0, 0);
+        x.ticks(1);
+        Due.due("begins after a wait of 4", x.ofLine(0, 14), 4);
+        x.mask(0, 1);
+        x.ticks(1);
+        Due.due("device 3 let go", x.ofLine(0, 9), 0);
+        Due.due("waits no more", x.ofLine(0, 5), 0);
     }
 
     private static void maskEnds() {
